@@ -11,12 +11,14 @@ public final class LocationDesk {
     private static final int ENTRY_RANGE = 16;
     private static final int ENTRY_HEAD = 18;
 
+    // What a part is of.
     private static final int EMPTY = 0;
     private static final int ADDRESS = 1;
     private static final int REGISTER = 2;
     private static final int VALUE = 3;
     private static final int BLOCK = 4;
 
+    // The faults of runs; those of texts stand in Parser.
     private static final int ENDLESS = 1;
     private static final int NO_CODE = 2;
     private static final int TOO_FEW = 3;
@@ -335,7 +337,7 @@ public final class LocationDesk {
             Variable variable = parser.variables[i];
             variable.code = coder.code(variable);
             if (variable.code == null) {
-                fault = NO_TARGET;
+                fault = Parser.TOO_LONG;
                 place = variable.place;
             }
         }
@@ -1289,6 +1291,14 @@ public final class LocationDesk {
 
     /** Reads a text as declarations. After the first fault no token goes on, so that all reading ends. */
     private static final class Parser {
+        private static final int UNFIT = 1;
+        private static final int HIGH_REGISTER = 2;
+        private static final int OUT_OF_RANGE = 3;
+        private static final int NAMED_TWICE = 4;
+        private static final int TOO_DEEP = 5;
+        private static final int ONE_TOO_MANY = 6;
+        private static final int TOO_LONG = 7;
+
         private static final int MOST_VARIABLES = 12;
         private static final int MOST_PARTS = 8;
         private static final int MOST_BLOCK = 64;
@@ -1343,13 +1353,13 @@ public final class LocationDesk {
             if (kind == wanted) {
                 take();
             } else {
-                refuse(1);
+                refuse(UNFIT);
             }
         }
 
         private boolean raise() {
             if (open >= MOST_OPEN) {
-                refuse(5);
+                refuse(TOO_DEEP);
                 return false;
             }
             open++;
@@ -1359,11 +1369,11 @@ public final class LocationDesk {
         private void readDeclaration() {
             int[] name = reader.letters(token);
             if (kind != Reader.NAME) {
-                refuse(1);
+                refuse(UNFIT);
             } else if (isKnown(name)) {
-                refuse(4);
+                refuse(NAMED_TWICE);
             } else if (count >= variables.length) {
-                refuse(6);
+                refuse(ONE_TOO_MANY);
             } else {
                 Variable variable = new Variable(name, reader.places[token]);
                 variables[count] = variable;
@@ -1414,11 +1424,11 @@ public final class LocationDesk {
 
         private void readRange(Variable variable, int r) {
             if (kind != Reader.NUMBER) {
-                refuse(1);
+                refuse(UNFIT);
                 return;
             }
             if (r < 0 || r >= Variable.MOST_ROWS) {
-                refuse(6);
+                refuse(ONE_TOO_MANY);
                 return;
             }
             variable.rows = r + 1;
@@ -1426,7 +1436,7 @@ public final class LocationDesk {
             take();
             expect(Reader.DOTS);
             if (kind == Reader.NUMBER && number <= variable.from[r]) {
-                refuse(3);
+                refuse(OUT_OF_RANGE);
             }
             variable.to[r] = number;
             expect(Reader.NUMBER);
@@ -1444,7 +1454,7 @@ public final class LocationDesk {
             for (int i = 1; i <= MOST_PARTS && kind == ','; i++) {
                 take();
                 if (i == MOST_PARTS && beginsPlace(kind)) {
-                    refuse(6);
+                    refuse(ONE_TOO_MANY);
                 }
                 last.next = readPlace();
                 last = last.next;
@@ -1458,7 +1468,7 @@ public final class LocationDesk {
         private void readWidth(Place piece) {
             expect('/');
             if (kind == Reader.NUMBER && number > 64) {
-                refuse(3);
+                refuse(OUT_OF_RANGE);
             }
             piece.bytes = (int) number;
             expect(Reader.NUMBER);
@@ -1472,7 +1482,7 @@ public final class LocationDesk {
             Place told = new Place();
             int word = kind;
             if (!beginsPlace(word)) {
-                refuse(1);
+                refuse(UNFIT);
             } else if (word != '[' || raise()) {
                 take();
             }
@@ -1497,7 +1507,7 @@ public final class LocationDesk {
 
         private long refuseHighRegister() {
             if (kind == Reader.NUMBER && number >= Machine.REGISTERS) {
-                refuse(2);
+                refuse(HIGH_REGISTER);
             }
             return number;
         }
@@ -1506,9 +1516,9 @@ public final class LocationDesk {
             int size = 0;
             for (int i = 0; i <= row.length && kind == Reader.NUMBER; i++) {
                 if (number > 255) {
-                    refuse(3);
+                    refuse(OUT_OF_RANGE);
                 } else if (size >= row.length) {
-                    refuse(6);
+                    refuse(ONE_TOO_MANY);
                 } else {
                     row[size] = (int) number;
                     size++;
@@ -1516,7 +1526,7 @@ public final class LocationDesk {
                 }
             }
             if (size == 0) {
-                refuse(1);
+                refuse(UNFIT);
             }
             return Arrays.copyOf(row, size);
         }
@@ -1607,13 +1617,13 @@ public final class LocationDesk {
                     }
                     break;
                 default:
-                    refuse(1);
+                    refuse(UNFIT);
                     break;
             }
             return node;
         }
 
-        // The operation of a sign between two, or ahead of one (which - is too: there it is another).
+        // Of a sign that stands between two.
         private static int operationOf(int sign) {
             switch (sign) {
                 case '|':
