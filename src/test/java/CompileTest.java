@@ -10,6 +10,7 @@ public final class CompileTest {
         places();
         rows();
         tokens();
+        fullTape();
         grammar();
         limits();
         names();
@@ -278,6 +279,9 @@ public final class CompileTest {
         faultAt(1, "x=[#1div 2];");
         faultAt(1, "x=[#1x];");
         faultAt(1, "x=[#1X];");
+        faultAt(1, "x=[#1A];");
+        faultAt(1, "x=[#1Z];");
+        faultAt(1, "x=[#1z];");
         faultAt(1, "x=[#1234567890123456789];");
         good("x=[123456789012345678];", 1);
         faultAt(1, "x=[#123456789012345678a];");
@@ -312,6 +316,25 @@ public final class CompileTest {
         faultAt(1, "x=none;#\u00e9");
         faultAt(1, "x=none;#\u00ff");
         faultAt(1, "x=none; \n #;");
+    }
+
+    /** As many tokens as a tape has bytes, and bytes of before behind the text. */
+    private static void fullTape() {
+        faultAt(7, "#x=[1" + "-1".repeat(497) + "];");
+        faultAt(1, "x=[1" + "-1".repeat(498) + "#");
+        faultAt(1, "x=[1" + "-1".repeat(497) + "]]#".replace("]#", "#]"));
+        LocationDesk desk = new LocationDesk();
+        Check.text(desk, "x=none              ");
+        desk.end(6);
+        Check.due("compile", desk.compile(), -1);
+        Check.due("the end is where the tape ends", desk.told(1), 6);
+        Check.text(desk, "x=[12345678 ];      ");
+        desk.end(10);
+        desk.compile();
+        Check.due("no digits behind the tape's end", desk.told(1), 10);
+        Check.text(desk, "x=none;y=none;");
+        desk.end(7);
+        Check.due("one", desk.compile(), 1);
     }
 
     private static void grammar() {

@@ -134,6 +134,12 @@ public final class FindTest {
         Check.due("the entry holds, though none is behind it", other.find(0, 0, 5, 9), 0);
         list(other, 0, base(7));
         fails(other, "behind a base", 16, 5);
+        list(other, 0, Check.times(592, 255));
+        fails(other, "37 bases and no more", 592, 5);
+        list(other, 0, Check.times(576, 255), LAST);
+        Check.due("36 bases and the end", other.find(0, 0, 5, 9), 0);
+        list(other, 0, entry(0, 10));
+        Check.due("an entry without bytes, and nothing behind it", other.find(0, 0, 5, 9), 0);
         list(other, 0, base(7), java.util.Arrays.copyOf(first, 17));
         fails(other, "behind a base", 16, 5);
         list(other, 0, java.util.Arrays.copyOf(first, first.length - 1));
@@ -165,6 +171,9 @@ public final class FindTest {
         Check.due("byte 2", desk.part(0, 102), -1);
         list(desk, 0, LAST);
         Check.due("the block stays", desk.part(0, 101), 8);
+        list(desk, 0, entry(0, 10, 0x35), entry(10, 20, 80, 147, 1, 0x35), LAST);
+        Check.due("a fault at the entry's end", desk.find(0, 0, 15, 50), 13);
+        Check.due("its place", desk.told(1), 4);
         list(desk, 0, entry(0, 10, 152, 3, 0, 34), LAST);
         Check.expression(desk, 3, 0x35, 0x36);
         Check.due("a call", desk.find(0, 0, 5, 50), 0);

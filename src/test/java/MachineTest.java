@@ -66,6 +66,10 @@ public final class MachineTest {
         Check.due("no FRAME", desk.run(0, 5), 11);
         Check.due("frame(0)", desk.frame(0), true);
         Check.due("145 in the FRAME", desk.run(0, 5), 11);
+        Check.expression(desk, 0, 0x37);
+        Check.expression(desk, 1, 145, 1);
+        Check.due("EXPRESSION 0 as FRAME", desk.run(1, 5), 0);
+        Check.due("7 and 1", desk.part(0, 1), 8);
     }
 
     private static void cfa() {

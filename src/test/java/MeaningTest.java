@@ -204,6 +204,11 @@ public final class MeaningTest {
         Check.compile(desk, "x=value fb+fb;");
         Check.due("each fb has fuel 1000", desk.means(0, 0), 0);
         Check.due("where() has it once", desk.where(0, 0, 1000), 12);
+        Check.expression(desk, 5, 150, 150, 8, 249, 150, 49, 28, 18, 40, 0xFA, 0xFF);
+        Check.due("fb of 1000 steps", desk.means(0, 0), 0);
+        Check.expression(desk, 5, 150, 150, 150, 8, 249, 150, 49, 28, 18, 40, 0xFA, 0xFF);
+        Check.due("fb of 1001 steps", desk.means(0, 0), 12);
+        Check.expression(desk, 5, 8, 249, 150, 49, 28, 18, 40, 0xFA, 0xFF);
         Check.compile(desk, "x=value fb;");
         Check.due("where() with just enough", desk.where(0, 0, 1000), 0);
         Check.due("its steps", desk.told(2), 1000);

@@ -253,6 +253,8 @@ public final class OperationTest {
         Check.due("nine calls", desk.run(4, 20), 8);
         Check.due("place of the outermost", desk.told(1), 0);
         Check.due("steps of nine calls", desk.told(2), 9);
+        Check.expression(desk, 0, 0x33);
+        top(desk, "a call of 0", 3, 0x35, 152, 0, 0);
         Check.expression(desk, 3, 47, 0, 0, 0x31);
         top(desk, "jumps inside of a call", 1, 0x35, 152, 3, 0);
     }
