@@ -15,6 +15,7 @@ public final class CompileTest {
         limits();
         names();
         openOnes();
+        openAgain();
         tooLong();
         Check.finish("CompileTest");
     }
@@ -332,6 +333,7 @@ public final class CompileTest {
         desk.end(10);
         desk.compile();
         Check.due("no digits behind the tape's end", desk.told(1), 10);
+        faultAt(4, "x=none;" + " ".repeat(992) + "#x");
         Check.text(desk, "x=none;y=none;");
         desk.end(7);
         Check.due("one", desk.compile(), 1);
@@ -394,6 +396,17 @@ public final class CompileTest {
         faultAt(1, "x=reg 1#/2;");
         faultAt(1, "x={reg 1/2#/3};");
         faultAt(1, "x={reg 1/#fb};");
+        faultAt(1, "x=[1 #tls 2];");
+        faultAt(1, "x=[1 #fb];");
+        faultAt(1, "x=[1 #@1 2];");
+        faultAt(1, "x=[1 #~2];");
+        faultAt(1, "x=[#div 2];");
+        faultAt(1, "x=[#mod 2];");
+        faultAt(1, "x=[#*2];");
+        faultAt(1, "x=[1#..2];");
+        faultAt(1, "x=1 #mod 2:none;");
+        faultAt(1, "x=1 #div 2:none;");
+        faultAt(1, "x=1#==2:none;");
         faultAt(1, "x=1#;");
         faultAt(1, "x=1..#;");
         faultAt(1, "x=1..2#;");
@@ -506,6 +519,16 @@ public final class CompileTest {
         faultAt(5, "x=value " + "-".repeat(12) + "#(1);");
         good("x=value " + "-".repeat(12) + "1-1;", 1);
         good("x=value (" + "-".repeat(11) + "1?1:1)?1:1;", 1);
+    }
+
+    /** What stayed open at a fault is not open in the next text. */
+    private static void openAgain() {
+        LocationDesk desk = new LocationDesk();
+        for (int i = 0; i < 5; i++) {
+            Check.due("a fault", Check.compile(desk, "x={[((-~tls 1?;"), -1);
+            Check.due("fault 1", desk.told(0), 1);
+        }
+        Check.due("twelve", Check.compile(desk, "x=[" + "(".repeat(11) + "1" + ")".repeat(11) + "];"), 1);
     }
 
     /** A sum of so many bytes: 1 + 2 n. */

@@ -174,6 +174,11 @@ public final class FindTest {
         list(desk, 0, entry(0, 10, 0x35), entry(10, 20, 80, 147, 1, 0x35), LAST);
         Check.due("a fault at the entry's end", desk.find(0, 0, 15, 50), 13);
         Check.due("its place", desk.told(1), 4);
+        list(desk, 0, entry(0, 10, 150, 16, 128), entry(10, 20, 150, 12, 1), entry(20, 30, 158, 5), entry(30, 40, 17), LAST);
+        for (int pc = 5; pc < 40; pc += 10) {
+            Check.due("operands do not end within the entry", desk.find(0, 0, pc, 50), 1);
+            Check.due("their place", desk.told(1), pc < 20 ? 1 : 0);
+        }
         list(desk, 0, entry(0, 10, 152, 3, 0, 34), LAST);
         Check.expression(desk, 3, 0x35, 0x36);
         Check.due("a call", desk.find(0, 0, 5, 50), 0);

@@ -192,8 +192,19 @@ public final class MeaningTest {
         fault(desk, "fb", 12);
         Check.expression(desk, 5, Check.times(129, 0x35));
         fault(desk, "fb", 4);
-        Check.expression(desk, 5, 81);
+        for (int k = 6; k < 14; k++) {
+            Check.expression(desk, k, 152, k + 1, 0);
+        }
+        Check.expression(desk, 14, 0x37);
+        Check.expression(desk, 5, 152, 7, 0);
         Check.compile(desk, "x=[fb+1];");
+        Check.due("eight calls in a FRAME", desk.means(0, 0), 0);
+        Check.due("8", desk.part(0, 1), 8);
+        Check.due("where() too", desk.where(0, 0, 50), 0);
+        Check.expression(desk, 5, 152, 6, 0);
+        Check.due("nine calls in a FRAME", desk.means(0, 0), 8);
+        Check.due("where() too", desk.where(0, 0, 50), 8);
+        Check.expression(desk, 5, 81);
         Check.due("of a register", desk.means(0, 0), 0);
         Check.due("101", desk.part(0, 1), 101);
         Check.expression(desk, 5, 0x35, 159);

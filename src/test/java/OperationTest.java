@@ -174,6 +174,7 @@ public final class OperationTest {
             for (long t : some) {
                 if (t != 0) {
                     two(29, s, t, Long.remainderUnsigned(s, t));
+                    two(27, s, t, s / t);
                 }
                 boolean far = t < 0 || t > 63;
                 two(36, s, t, far ? 0 : s << t);

@@ -96,6 +96,13 @@ public final class ResultTest {
         Check.expression(desk, 0, 80, 147, 1, 0);
         Check.due("a fault", desk.run(0, 9), 2);
         Check.due("still two", desk.parts(), 2);
+        Check.expression(desk, 0, 80, 157, 7, 9);
+        desk.run(0, 9);
+        partAll(desk, 0, 2, 0, 7, 9);
+        Check.tape(desk, new int[16]);
+        desk.list(0);
+        desk.find(0, 0, 0, 9);
+        partAll(desk, 0, 0, 0, 0, 0);
         desk.run(5, 9);
         Check.due("one again", desk.parts(), 1);
         partAll(desk, 0, 0, 0, 0, 0);
@@ -284,5 +291,8 @@ public final class ResultTest {
         Check.due("16 of 16", desk.store(16), 16);
         Check.due("stored", desk.register(0), -65536);
         Check.due("1 of none", desk.store(1), -1);
+        Check.tape(desk, 0xFF);
+        Check.due("1 of 8", desk.store(1), 1);
+        Check.due("stored", desk.register(0), -65535);
     }
 }
