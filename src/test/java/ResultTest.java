@@ -269,6 +269,20 @@ public final class ResultTest {
         Check.tape(desk, 0x0F, 0xF1);
         Check.due("the same twice", desk.store(16), 16);
         Check.due("the last holds", desk.register(1), 0xF1);
+        Check.expression(desk, 0, 81, 147, 1, 82, 147, 1, 83, 147, 1);
+        desk.run(0, 9);
+        Check.expression(desk, 0, 84, 147, 1, 85, 147, 1);
+        desk.run(0, 9);
+        Check.tape(desk, 255, 255, 255);
+        Check.due("pieces of before are gone", desk.store(24), 16);
+        Check.due("register 3", desk.register(3), 0);
+        Check.due("fetched likewise", desk.fetch(24), 16);
+        Check.expression(desk, 0, Check.times(16, 86, 147, 2));
+        desk.run(0, 99);
+        Check.tape(desk, Check.times(64, 0x5A));
+        Check.due("16 pieces", desk.store(512), 256);
+        Check.due("register 6", desk.register(6), 0x5A5A);
+        Check.due("16 pieces", desk.fetch(512), 256);
     }
 
     private static void storeArguments() {
