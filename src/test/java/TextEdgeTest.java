@@ -5,6 +5,9 @@
 public final class TextEdgeTest {
     private static final String[] WORDS = {"reg", "value", "bytes", "none", "fb", "cfa", "obj", "tls", "div", "mod"};
 
+    private static final String[] USES = {"x=WORD 1;", "x=WORD 1;", "x=WORD 1;", "x=WORD;", "x=[WORD];", "x=[WORD];", "x=[WORD];", "x=[WORD 1];",
+        "x=[1 WORD 1];", "x=[1 WORD 1];"};
+
     public static void main(String[] args) {
         letters();
         blanks();
@@ -191,6 +194,18 @@ public final class TextEdgeTest {
                 good(word.substring(0, word.length() - 1) + "=none;", 1);
             }
             badAt(1, "#" + word.toUpperCase() + "=none;");
+        }
+        for (int i = 0; i < WORDS.length; i++) {
+            for (int k = 0; k < WORDS[i].length(); k++) {
+                for (String letter : new String[] {"q", "9"}) {
+                    String like = WORDS[i].substring(0, k) + letter + WORDS[i].substring(k + 1);
+                    if (k > 0 || letter.equals("q")) {
+                        good(like + "=none;", 1);
+                        badAt(1, USES[i].replace("WORD", "#" + like));
+                    }
+                }
+            }
+            good(USES[i].replace("WORD", WORDS[i]), 1);
         }
         badAt(1, "x=#reg1;");
         badAt(1, "x=#value1;");
@@ -580,6 +595,16 @@ public final class TextEdgeTest {
             badAt(7, "#x=" + location + ";");
             badAt(7, "y=reg 1;#x=1..2:none,2..3:" + location + ";z=none;");
         }
+        // far too long, with the jumps' two bytes around the 600th and behind it
+        for (int count = 296; count <= 300; count++) {
+            badAt(7, "#x=[" + sum(count) + "?2:3];");
+            badAt(7, "#x=[" + sum(count) + "+128?2:3];");
+            badAt(7, "#x=[0?2:" + sum(count - 5) + "];");
+            badAt(7, "#x=[0?2:" + sum(count - 5) + "+128];");
+            badAt(7, "y=none;#x=5..6:[" + sum(count - 9) + "?2:3];");
+            badAt(7, "y=none;#x=5..6:[" + sum(count - 9) + "+128?2:3];");
+            badAt(7, "y=none;#x=5..6:[" + sum(count - 9) + "],6..7:none;");
+        }
     }
 
     /** "or whose LIST has more than 600". */
@@ -597,6 +622,11 @@ public final class TextEdgeTest {
         badAt(7, "#x=1..2:value " + sum(149) + ",2..3:[" + sum(124) + "];");
         badAt(7, "y=none;#x=1..2:value " + sum(149) + ",2..3:value " + sum(124) + ";");
         badAt(7, "y=none;#x=1..2:value " + sum(149) + ",2..3:value " + sum(149) + ";");
+        // a third row whose two bytes of size stand around the 600th
+        for (int count = 121; count <= 125; count++) {
+            badAt(7, "#x=1..2:value " + sum(149) + ",2..3:[" + sum(count) + "],3..4:none;");
+            badAt(7, "#x=1..2:value " + sum(149) + ",2..3:value " + sum(count) + ",3..4:none;");
+        }
         String row = "1..2:bytes" + " 1".repeat(53) + ",";
         good("x=" + row.repeat(7) + "1..2:bytes" + " 1".repeat(53) + ";", 1);
         badAt(7, "#x=" + row.repeat(7) + "1..2:bytes" + " 1".repeat(54) + ";");
