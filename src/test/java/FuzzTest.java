@@ -88,9 +88,9 @@ public final class FuzzTest {
     /** Any call in any order with any arguments. */
     private static void calls() {
         Random random = new Random(2);
-        for (int round = 0; round < 500; round++) {
+        for (int round = 0; round < 800; round++) {
             LocationDesk desk = new LocationDesk();
-            for (int call = 0; call < 512; call++) {
+            for (int call = 0; call < 330; call++) {
                 anyCall(desk, random);
             }
             Check.due("parts", desk.parts() >= 1, true);
