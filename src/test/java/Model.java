@@ -5,8 +5,9 @@ import java.util.List;
 import java.util.Map;
 
 /**
- * The document once more, parts I to III and their promises: written from its words alone, another way than the class, for
- * ModelTest to compare the two. Faults are thrown here, numbers of bytes are BigIntegers, a result is a row of bits.
+ * The document once more, parts I to III and their promises: written anew, another way than the class, for ModelTest to
+ * compare the two. Faults are thrown here, numbers of bytes are BigIntegers, a result is a row of bits. The same reader wrote
+ * both: this shows slips, not a sentence that was read wrongly twice.
  */
 class Model {
     static final int NONE = -1;
